@@ -537,6 +537,15 @@ public final class MendHall {
             return at >= 0 && at < skills.length ? skills[at] : 0;
         }
 
+        boolean hasSkillFor(int sort) {
+            for (int mender = 0; mender < menders; mender++) {
+                if (skillOf(mender, sort) > 0) {
+                    return true;
+                }
+            }
+            return false;
+        }
+
         void addSort(int itsLook, int itsParts) {
             if (sorts < MOST_SORTS) {
                 look[sorts] = itsLook;
@@ -1247,7 +1256,18 @@ public final class MendHall {
         private void readFact(int depth) {
             boolean isNot = reader.isWord("not");
             if (!isNot && !reader.isSign('[')) {
-                readComparison();
+                readSum();
+                int step = stepAtHand();
+                if (step < Rule.BELOW || step > Rule.ABOVE) {
+                    reader.fail(Reader.OUT_OF_PLACE);
+                } else if (counted >= MOST_COUNTED) {
+                    reader.fail(Reader.ONE_TOO_MANY);
+                } else {
+                    counted++;
+                    reader.next();
+                    readSum();
+                    putStep(step, 0);
+                }
             } else if (depth >= MOST_DEPTH) {
                 reader.fail(Reader.TOO_DEEP);
             } else if (isNot) {
@@ -1262,21 +1282,6 @@ public final class MendHall {
                 } else {
                     reader.fail(Reader.OUT_OF_PLACE);
                 }
-            }
-        }
-
-        private void readComparison() {
-            readSum();
-            int step = stepAtHand();
-            if (step < Rule.BELOW || step > Rule.ABOVE) {
-                reader.fail(Reader.OUT_OF_PLACE);
-            } else if (counted >= MOST_COUNTED) {
-                reader.fail(Reader.ONE_TOO_MANY);
-            } else {
-                counted++;
-                reader.next();
-                readSum();
-                putStep(step, 0);
             }
         }
 
@@ -1555,7 +1560,7 @@ public final class MendHall {
 
         int lastCome(int sort) {
             int more = now.hall.things;
-            if (more >= MOST_THINGS) {
+            if (more >= MOST_THINGS || !now.hall.hasSkillFor(sort)) {
                 return NOT_SUCH;
             }
             for (int come = now.hall.end; come >= now.minuteNow(); come--) {
