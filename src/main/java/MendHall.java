@@ -789,11 +789,11 @@ public final class MendHall {
         int choose(Day day, int mender) {
             int best = NONE;
             long most = 0;
+            if (day.rule != null) {
+                tellMender(day, mender);
+            }
             for (int thing = 0; thing < day.hall.things; thing++) {
                 if (day.canTake(mender, thing)) {
-                    if (best == NONE && day.rule != null) {
-                        tellMender(day, mender);
-                    }
                     long sum = LATEST - day.hall.come[thing];
                     if (day.rule != null) {
                         tellThing(day, mender, thing);
@@ -1537,7 +1537,7 @@ public final class MendHall {
             }
         }
 
-        /** As it is; tryChoice(NONE) comes behind it, so that of several none is kept. */
+        /** Behind it none is tried first, so that of several none is kept. */
         private void startTrials() {
             trial.copy(now);
             most = NONE;

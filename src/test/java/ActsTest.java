@@ -244,8 +244,11 @@ public final class ActsTest {
         x.minute();
         DUE.is("none left", x.mender(0, 2), 0);
         DUE.is("coffee(0, 1)", x.coffee(0, 1), 2);
+        DUE.is("the last minute of it", x.coffee(0, 1), -1);
         x.minute();
         DUE.is("count", x.mender(0, 2), 0);
+        DUE.is("at it", x.coffee(2, 1), -1);
+        DUE.is("ACTS", x.count(14), 6);
         // one minute of COFFEE: the next MINUTE alone
         MendHall y = Due.open("hall 30 30;sort 0 0;mender;skill 0 0 5;thing 0 0 5 0");
         y.coffee(0, 1);

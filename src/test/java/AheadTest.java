@@ -140,6 +140,15 @@ public final class AheadTest {
                 + "thing 0 0 1 0;thing 0 0 1 0;thing 0 0 1 0;thing 0 0 1 0;thing 0 0 1 0");
         DUE.is("7", w.late(0), -2);
         DUE.is("7, without that SORT", w.late(1), -1);
+        Due.minutes(w, 3);
+        DUE.is("7, the first MENDED in minute 2", w.late(0), -2);
+        w.minute();
+        Due.hall(w, "hall 30 40;sort 0 0;mender;skill 0 0 4;thing 0 0 1 0;thing 0 0 1 0;"
+                + "thing 0 0 1 0;thing 0 0 1 0;thing 0 0 1 0;thing 0 0 1 0;thing 0 0 1 0");
+        Due.minutes(w, 4);
+        DUE.is("7, the first MENDED in minute 3", w.late(0), -2);
+        MendHall u = Due.open("hall 30 40;sort 0 0;mender;mender;skill 1 0 1");
+        DUE.is("a skill of 1", u.late(0), 29);
         // NEEDS none: no part must be at hand
         MendHall v = Due.open("hall 300 300;sort 0 0;mender;skill 0 0 60");
         DUE.is("late(0)", v.late(0), 299);

@@ -108,6 +108,14 @@ public final class ChoiceTest {
         row("not free", x, 7, 5, -2, 1, -1, -2);
         DUE.is("nothing changes", x.count(8), 11);
         DUE.is("nothing changes", x.sort(0, 1), 2);
+        // parts of each SORT by itself
+        MendHall z = Due.open("hall 30 30;sort 0 1;sort 0 2;sort 0 1;mender;mender;mender;"
+                + "skill 0 0 9;skill 0 1 1;skill 0 2 9;skill 1 0 9;skill 1 1 1;skill 1 2 9;"
+                + "skill 2 1 1;thing 1 0 3 1;thing 1 0 4 1;thing 1 0 5 1;thing 0 0 1 1;thing 2 0 1 1",
+                "take 0");
+        z.force(0);
+        z.minute();
+        row("two of SORT 1 and one more", z, 10, 11, 1, 3, 2, -2);
         // four MENDERS, seven THINGS
         MendHall y = Due.open("hall 30 30;sort 0 0;mender;mender;mender;mender;skill 0 0 1;"
                 + "skill 1 0 2;skill 2 0 3;skill 3 0 4;thing 0 0 1 0;thing 0 0 2 0;thing 0 0 3 0;"
@@ -185,6 +193,13 @@ public final class ChoiceTest {
         z.minute();
         DUE.is("no skill", z.swap(0), -2);
         DUE.is("no skill", z.swap(2), -2);
+        // a skill of 1 minute, and MENDERS behind one who is free
+        MendHall v = Due.open("hall 30 30;sort 0 0;sort 0 0;mender;mender;mender;skill 1 0 9;"
+                + "skill 1 1 1;skill 2 0 1;skill 2 1 9;thing 0 0 6 0;thing 1 0 6 0");
+        v.minute();
+        DUE.is("8 and 8 to go, changed 2", v.swap(0), 14);
+        DUE.is("first", v.swap(1), 1);
+        DUE.is("second", v.swap(2), 2);
         // just 0 and just 1: 10 and 10 to go behind one MINUTE, changed 20, then 19
         MendHall w = Due.open("hall 30 30;sort 0 0;sort 0 0;mender;mender;skill 0 0 11;skill 0 1 9;"
                 + "skill 1 0 11;skill 1 1 11;thing 0 0 6 0;thing 1 0 6 0");
@@ -238,6 +253,10 @@ public final class ChoiceTest {
         for (int bad : new int[] {-1, 2, Integer.MAX_VALUE, Integer.MIN_VALUE}) {
             DUE.is("part(" + bad + ")", x.part(bad), -2);
         }
+        MendHall w = Due.open("hall 30 30;sort 0 0;sort 0 0;mender;skill 0 0 5;skill 0 1 5;"
+                + "thing 0 0 9 1;thing 1 0 9 1");
+        DUE.is("the least of two", w.part(0), 0);
+        DUE.is("how much", w.part(1), 9);
         // a part can do harm: what it lets be taken keeps the MENDER from the other
         MendHall y = Due.open("hall 30 4;sort 0 0;mender;skill 0 0 9;thing 0 0 1 1;thing 0 1 30 0");
         DUE.is("none", y.part(0), -1);

@@ -46,6 +46,7 @@ public final class HallTextTest {
                 DUE.is("thing(" + t + ", " + what + ")", x.thing(t, what), things[t][what]);
             }
         }
+        DUE.is("a skill of 1", Due.open("hall 1 1;sort 0 0;mender;skill 0 0 1").mender(0, 4), 1);
         fine("hall 1 1", 0);
         fine("  hall  1   1  ", 0);
         fine("hall1 1;sort0 0;mender;skill0 0 1;thing0 0 1 0", 1);
@@ -97,6 +98,13 @@ public final class HallTextTest {
         fault("halls 1 1", 0, 0);
         fault("Hall 1 1", 0, 0);
         fault("hallx", 0, 0);
+        fault("hallz 1 1", 0, 0);
+        fault("zhall 1 1", 0, 0);
+        fault("halla 1 1", 0, 0);
+        fault("hall{1 1", 4, 0);
+        fault("hall`1 1", 4, 0);
+        fault("hall :1", 5, 0);
+        fault("hall /1", 5, 0);
         fault("1", 0, 0);
         fault("take 1", 0, 0);
         fault("hall 1 1;", 9, 0);

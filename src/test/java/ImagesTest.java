@@ -7,6 +7,7 @@ public final class ImagesTest {
     public static void main(String[] args) {
         wrong();
         all();
+        books();
         rulesAndTapeStay();
         undoFromAnImage();
         withoutHall();
@@ -100,6 +101,23 @@ public final class ImagesTest {
         x.book(-1, 0, 0);
         DUE.is("back(2)", x.back(2), 4);
         same("gone back to again", x, want);
+    }
+
+    private static void books() {
+        MendHall x = Due.open(HALL, "take worth", "take 0");
+        x.book(0, 0, 1);
+        x.book(3, 1, 1);
+        x.image(0);
+        DUE.is("RULE 1 alone", x.ruled(1), 1);
+        for (int[] other : new int[][] {{5, 0, 1}, {0, 1, 1}, {0, 0, 2}}) {
+            x.book(-1, 0, 0);
+            x.book(other[0], other[1], other[2]);
+            x.book(other[0], other[1], other[2]);
+            x.back(0);
+            DUE.is("BOOKS", x.count(13), 2);
+            DUE.is("how many", x.ruled(0), 1);
+            DUE.is("RULE 1 alone", x.ruled(1), 1);
+        }
     }
 
     private static void rulesAndTapeStay() {

@@ -33,10 +33,14 @@ public final class ModelTest {
     private String run() {
         int calls = 0;
         int kind = random.nextInt(4);
+        String crowd = random.nextInt(3) == 0 ? crowd() : null;
+        if (crowd != null) {
+            return "\n" + log + crowd;
+        }
         while (calls < 150) {
             String wrong = null;
             int n = random.nextInt(100);
-            if (calls == 0 || n < 2) {
+            if (calls == 0 && log.length() == 0 || n < 2) {
                 wrong = tell(drawHall(), true);
             } else if (n < 6) {
                 wrong = tell(drawRule(), false);
@@ -46,7 +50,7 @@ public final class ModelTest {
             } else if (n < 35) {
                 wrong = both("minute", 0, 0, 0);
             } else if (n < 38) {
-                wrong = both("force", small(-2, 7), 0, 0);
+                wrong = both("force", small(-2, 4), 0, 0);
             } else if (n < 55 + 5 * kind) {
                 wrong = act();
             } else {
@@ -60,48 +64,101 @@ public final class ModelTest {
         return null;
     }
 
+    /** Many THINGS wait for MENDERS who are free, and are given and put down by hand. */
+    private String crowd() {
+        StringBuilder text = new StringBuilder("hall 200 ").append(small(20, 200));
+        int sorts = small(1, 3);
+        for (int i = 0; i < sorts; i++) {
+            text.append(";sort ").append(small(0, 3)).append(' ').append(small(0, 3));
+        }
+        text.append(";mender;mender");
+        text.append(random.nextBoolean() ? ";mender" : "");
+        for (int m = 0; m < 2; m++) {
+            for (int s = 0; s < sorts; s++) {
+                text.append(random.nextInt(6) > 0 ? ";skill " + m + " " + s + " " + small(1, 12)
+                        : "");
+            }
+        }
+        int things = small(3, 7);
+        for (int i = 0; i < things; i++) {
+            text.append(";thing ").append(small(0, sorts - 1)).append(' ').append(small(0, 2))
+                    .append(' ').append(small(1, 6)).append(' ').append(small(0, 1));
+        }
+        String wrong = tell(text.toString(), true);
+        wrong = wrong == null ? tell("take 0", false) : wrong;
+        wrong = wrong == null ? both("force", 0, 0, 0) : wrong;
+        for (int i = 0; i < 3 && wrong == null; i++) {
+            wrong = both("minute", 0, 0, 0);
+        }
+        for (int i = 0; i < 60 && wrong == null; i++) {
+            wrong = crowdCall();
+        }
+        return wrong;
+    }
+
+    private String crowdCall() {
+        switch (random.nextInt(12)) {
+            case 0: return both("minute", 0, 0, 0);
+            case 1: return both("putDown", small(0, 2), 0, 0);
+            case 2: return both("undo", 0, 0, 0);
+            case 3: return random.nextInt(3) == 0 ? both("coffee", small(0, 2), small(1, 9), 0)
+                    : null;
+            case 4: return both("swap", small(0, 2), 0, 0);
+            case 5: return both("take", small(0, 2), small(0, 1), 0);
+            case 6: return both("force", small(-1, 0), 0, 0);
+            case 7:
+            case 8: return both("match", small(0, 5), 0, 0);
+            default: return both("give", small(0, 2), small(0, 6), 0);
+        }
+    }
+
+    /** Mostly a number that there can be, now and then one beyond. */
+    private int number(int most) {
+        return random.nextInt(5) == 0 ? small(-1, most + 1) : small(0, most);
+    }
+
     private int small(int least, int most) {
         return least + random.nextInt(most - least + 1);
     }
 
     private String act() {
         switch (random.nextInt(9)) {
-            case 0: return both("give", small(-1, 4), small(-1, 7), 0);
-            case 1: return both("give", small(0, 3), small(0, 6), 0);
-            case 2: return both("putDown", small(-1, 4), 0, 0);
-            case 3: return both("bring", small(-1, 4), 0, 0);
-            case 4: return both("coffee", small(-1, 4), random.nextInt(5) == 0 ? small(-1, 61)
+            case 0:
+            case 1: return both("give", number(3), number(6), 0);
+            case 2: return both("putDown", number(3), 0, 0);
+            case 3: return both("bring", number(3), 0, 0);
+            case 4: return both("coffee", number(3), random.nextInt(5) == 0 ? small(-1, 61)
                     : small(1, 9), 0);
             case 5: return both("undo", 0, 0, 0);
-            case 6: return both("image", small(-1, 4), 0, 0);
-            case 7: return random.nextInt(3) == 0 ? both("back", small(-1, 4), 0, 0)
+            case 6: return both("image", number(3), 0, 0);
+            case 7: return random.nextInt(3) == 0 ? both("back", number(3), 0, 0)
                     : both("seed", random.nextInt(), 0, 0);
-            default: return both("book", small(-1, random.nextBoolean() ? 40 : 400), small(-1, 7),
-                    small(-1, 5));
+            default: return both("book", random.nextInt(9) == 0 ? small(-2, 400) : small(0, 40),
+                    number(6), number(4));
         }
     }
 
     private String ask() {
         switch (random.nextInt(20)) {
-            case 0: return both("thing", small(-1, 7), small(-1, 6), 0);
-            case 1: return both("mender", small(-1, 4), small(-1, 8), 0);
-            case 2: return both("sort", small(-1, 4), small(-1, 2), 0);
-            case 3: return both("ahead", small(-1, 7), small(-1, 60), small(-1, 3));
-            case 4: return both("ahead", small(-1, 7), small(-1, 401), small(-1, 3));
-            case 5: return both("done", small(-1, 7), 0, 0);
-            case 6: return both("waits", small(-1, 7), 0, 0);
-            case 7: return both("take", small(-1, 4), small(-1, 2), 0);
-            case 8: return both("match", small(-1, 6), 0, 0);
-            case 9: return both("swap", small(-1, 3), 0, 0);
-            case 10: return both("part", small(-1, 2), 0, 0);
-            case 11: return both("askIn", small(-1, 2), 0, 0);
-            case 12: return random.nextInt(4) == 0 ? both("late", small(-1, 4), 0, 0) : null;
-            case 13: return both("idle", small(-1, 4), 0, 0);
-            case 14: return both("ruled", small(-1, 2), 0, 0);
-            case 15: return both("look", small(-1, random.nextBoolean() ? 40 : 400), small(-1, 2),
+            case 0: return both("thing", number(6), number(5), 0);
+            case 1: return both("mender", number(3), number(7), 0);
+            case 2: return both("sort", number(3), number(1), 0);
+            case 3: return both("ahead", number(6), number(30), number(2));
+            case 4: return both("ahead", number(6), number(400), number(2));
+            case 5: return both("done", number(6), 0, 0);
+            case 6: return both("waits", number(6), 0, 0);
+            case 7: return both("take", number(3), number(1), 0);
+            case 8: return both("match", number(5), 0, 0);
+            case 9: return both("swap", number(2), 0, 0);
+            case 10: return both("part", number(1), 0, 0);
+            case 11: return both("askIn", number(1), 0, 0);
+            case 12: return random.nextInt(4) == 0 ? both("late", number(3), 0, 0) : null;
+            case 13: return both("idle", number(3), 0, 0);
+            case 14: return both("ruled", number(1), 0, 0);
+            case 15: return both("look", random.nextBoolean() ? number(40) : number(399), number(1),
                     0);
-            case 16: return both("saturdays", small(0, 11), small(-1, 61), small(-1, 2));
-            default: return both("count", small(-1, 17), 0, 0);
+            case 16: return both("saturdays", small(0, 11), number(60), number(1));
+            default: return both("count", number(16), 0, 0);
         }
     }
 

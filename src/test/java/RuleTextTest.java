@@ -119,6 +119,9 @@ public final class RuleTextTest {
             sixty.append("+1");
         }
         fine(sixty.toString());
+        MendHall two = new MendHall();
+        DUE.is("60", Due.rule(two, sixty.toString()), 0);
+        DUE.is("60 in another one", Due.rule(two, sixty.toString()), 1);
         fault(sixty + "+1", 6 + 59 * 2 + 1, 3);
         fault(sixty + "+ worth", 6 + 59 * 2 + 2, 3);
         // of one place the least
@@ -333,12 +336,12 @@ public final class RuleTextTest {
         }
     }
 
-    /** Only a MENDER of two skills takes: MENDER 1. */
+    /** Only a MENDER of two skills takes: MENDER 1; and of SORT 1, of which 5 parts are at hand. */
     private static int skillsOf() {
         MendHall x = Due.open("hall 30 12;sort 1 2;sort 0 5;mender;mender;skill 0 0 5;skill 1 0 7;"
-                + "skill 1 1 3;thing 0 0 4 1", "take skills-1");
+                + "skill 1 1 1;thing 0 0 4 1;thing 1 0 4 1", "take skills-1 if parts=5 and sort=1");
         x.force(0);
         x.minute();
-        return x.mender(0, 0) == -1 && x.mender(1, 0) == 0 ? 1 : 0;
+        return x.count(9) == 0 && x.count(10) == 2 && x.sort(1, 1) == 4 ? 1 : 0;
     }
 }

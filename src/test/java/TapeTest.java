@@ -78,5 +78,25 @@ public final class TapeTest {
         DUE.is("END", x.count(0), 12);
         DUE.is("WAIT", x.count(1), 99);
         DUE.is("count(16)", x.count(16), 0);
+        // what was cut off is no part of the text, however it goes on
+        Due.tell(x, "hall 1 12");
+        x.end(8);
+        DUE.is("hall()", x.hall(), 0);
+        DUE.is("WAIT", x.count(1), 1);
+        Due.tell(x, "take 1 if 1<=2");
+        x.end(12);
+        DUE.is("rule()", x.rule(), Due.fault(12, 0));
+        Due.tell(x, "take worth");
+        x.end(9);
+        DUE.is("rule()", x.rule(), Due.fault(5, 0));
+        // 400 bytes, to the last of them
+        Due.tell(x, " ".repeat(391) + "hall 9 12");
+        DUE.is("count(16)", x.count(16), 400);
+        DUE.is("hall()", x.hall(), 0);
+        DUE.is("WAIT", x.count(1), 12);
+        Due.tell(x, " ".repeat(388) + "take 1 if 1<");
+        DUE.is("rule()", x.rule(), Due.fault(400, 0));
+        Due.tell(x, " ".repeat(390) + "take worth");
+        DUE.is("rule()", x.rule(), 0);
     }
 }
