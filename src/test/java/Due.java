@@ -31,8 +31,9 @@ final class Due {
         }
     }
 
-    /** Puts a text on the TAPE, which is empty, and cuts it to its length. */
+    /** Puts a text on the TAPE, nothing else, and cuts it to its length. */
     static void tell(MendHall hall, String text) {
+        hall.end(0);
         byte[] bytes = text.getBytes(StandardCharsets.ISO_8859_1);
         int[] five = new int[5];
         for (int from = 0; from < bytes.length; from += 20) {
