@@ -299,6 +299,10 @@ public final class ModelTest {
 
     private String drawRule() {
         StringBuilder text = new StringBuilder();
+        if (random.nextInt(6) == 0) {
+            drawAtTheBounds(text);
+            return text.toString();
+        }
         int clauses = random.nextInt(20) == 0 ? small(8, 13) : small(1, 3);
         for (int i = 0; i < clauses; i++) {
             text.append(i == 0 ? "" : ";").append("take ");
@@ -309,6 +313,33 @@ public final class ModelTest {
             }
         }
         return text.toString();
+    }
+
+    /** Around 60 VALUES and FACTS, or 10 deep, or 12 CLAUSES. */
+    private void drawAtTheBounds(StringBuilder text) {
+        int kind = random.nextInt(3);
+        int clauses = kind == 0 ? small(11, 14) : small(1, 2);
+        for (int i = 0; i < clauses; i++) {
+            text.append(i == 0 ? "" : ";").append("take ");
+            drawSum(text, kind == 1 ? 30 : 2);
+            if (kind > 0) {
+                text.append(" if ");
+                drawDeep(text, kind == 2 ? small(8, 12) : 1);
+            }
+        }
+    }
+
+    private void drawDeep(StringBuilder text, int depth) {
+        if (depth == 0) {
+            drawTest(text, 0);
+        } else if (random.nextInt(3) == 0) {
+            text.append("not ");
+            drawDeep(text, depth - 1);
+        } else {
+            text.append('[');
+            drawDeep(text, depth - 1);
+            text.append(']').append(random.nextInt(9) == 0 ? " or not 1=2" : "");
+        }
     }
 
     private void drawTest(StringBuilder text, int depth) {
